@@ -16,7 +16,6 @@ public final class StateCoder {
     private final Row in = new Row();
     private final Share current = new Share();
     private final CountsRule rule = new CountsRule();
-    private final ShareReader reader = new ShareReader(in);
     private Row out = new Row();
     private Row spare = new Row();
     private int position;
@@ -109,10 +108,11 @@ public final class StateCoder {
         if (!isOrder(most) || !isSymbol(last)) {
             return -4;
         }
-        int order = reader.takeShare(position, most, last, plan);
+        in.startTaking(position);
+        int order = ShareReader.takeShare(in, most, last, plan);
         if (order > 0) {
             current.become(order, plan);
-            position += reader.bytesTaken();
+            position += in.bytesTaken();
         }
         return order;
     }
@@ -214,13 +214,15 @@ public final class StateCoder {
         return k;
     }
 
-    /** A row of bytes with a limit; bits can be put behind it, and numbers of bits be read from it. */
+    /** A row of bytes with a limit; bits can be put behind it, and be taken from it. */
     private static final class Row {
         private final byte[] bytes = new byte[ROW_LIMIT];
         private int length;
         private int held;
         private int heldBits;
         private boolean overfull;
+        private int takeStart;
+        private int takenBits;
 
         int length() {
             return length;
@@ -281,6 +283,31 @@ public final class StateCoder {
             // 13 bits and the 7 that may stand before them in the first byte lie in three bytes.
             int three = byteOrZero(first) | byteOrZero(first + 1) << 8 | byteOrZero(first + 2) << 16;
             return (three >> (bit & 7)) & ((1 << n) - 1);
+        }
+
+        void startTaking(int start) {
+            takeStart = start;
+            takenBits = 0;
+        }
+
+        boolean hasBits(int n) {
+            return takenBits + n <= 8 * (length - takeStart);
+        }
+
+        /** The number that takeBits would take. */
+        int nextBits(int n) {
+            return number(takeStart, takenBits, n);
+        }
+
+        int takeBits(int n) {
+            int number = nextBits(n);
+            takenBits += n;
+            return number;
+        }
+
+        /** How many bytes have a bit that was taken. */
+        int bytesTaken() {
+            return (takenBits + 7) >> 3;
         }
     }
 
@@ -361,7 +388,7 @@ public final class StateCoder {
             return isSymbol(symbol) ? firstOfSymbol[symbol] + number - weightOf(symbol) : 0;
         }
 
-        /** Gives the highest cells to the symbols with -1 points; the lowest cell that they have, or how many there are. */
+        /** Gives the highest cells to the symbols with -1 points; the end of the cells below these. */
         private int spreadSingles() {
             int lowest = cells();
             for (int s = 0; s < SYMBOLS; s++) {
@@ -375,11 +402,12 @@ public final class StateCoder {
 
         /** Gives the cells below end. The step is odd, so each cell comes up once in as many steps as there are cells. */
         private void spreadOthers(int end) {
-            int step = (cells() >> 1) + (cells() >> 3) + 3;
+            int cells = cells();
+            int step = (cells >> 1) + (cells >> 3) + 3;
             int symbol = -1;
             int left = 0;
             int cell = 0;
-            for (int k = 0; k < cells(); k++) {
+            for (int k = 0; k < cells; k++) {
                 if (cell < end && hasCell(cell)) {
                     while (left <= 0 && symbol < SYMBOLS - 1) {
                         symbol++;
@@ -388,7 +416,7 @@ public final class StateCoder {
                     symbols[cell] = symbol;
                     left--;
                 }
-                cell = (cell + step) & (cells() - 1);
+                cell = (cell + step) & (cells - 1);
             }
         }
 
@@ -402,15 +430,21 @@ public final class StateCoder {
         }
 
         private void numberCells() {
-            for (int cell = 0; hasCell(cell); cell++) {
+            for (int cell = 0; cell < cells() && cell < MOST_CELLS; cell++) {
                 int symbol = symbols[cell];
-                if (isSymbol(symbol) && hasCell(slotOf(symbol, nextNumber[symbol]))) {
-                    int number = nextNumber[symbol];
+                if (isSymbol(symbol)) {
+                    giveNumber(cell, symbol, nextNumber[symbol]);
                     nextNumber[symbol]++;
-                    cellsBySymbol[slotOf(symbol, number)] = cell;
-                    bits[cell] = order - exponent(number);
-                    bases[cell] = (number << bits[cell]) - cells();
                 }
+            }
+        }
+
+        private void giveNumber(int cell, int symbol, int number) {
+            int slot = slotOf(symbol, number);
+            if (hasCell(cell) && hasCell(slot)) {
+                cellsBySymbol[slot] = cell;
+                bits[cell] = order - exponent(number);
+                bases[cell] = (number << bits[cell]) - cells();
             }
         }
     }
@@ -421,7 +455,7 @@ public final class StateCoder {
         private final int[] ranked = new int[SYMBOLS];
         private int rankedLength;
 
-        /** Says false, the counts being all 0 or those above 0 too many for the order. */
+        /** Says false when all counts are 0, or more are above 0 than the order has points. */
         boolean makePoints(int[] counts, int order, int[] points) {
             int total = 0;
             int used = 0;
@@ -550,28 +584,14 @@ public final class StateCoder {
         }
     }
 
-    /** Reads a written share from a row. */
+    /** Reads a written share. */
     private static final class ShareReader {
-        private final Row row;
-        private int start;
-        private int bit;
-
-        ShareReader(Row row) {
-            this.row = row;
-        }
-
-        int bytesTaken() {
-            return (bit + 7) >> 3;
-        }
-
         /** Fills points; the order, or -1, -2 or -3 as promise 12 has them. */
-        int takeShare(int from, int most, int last, int[] points) {
-            start = from;
-            bit = 0;
-            if (!hasBits(ORDER_BITS)) {
+        static int takeShare(Row row, int most, int last, int[] points) {
+            if (!row.hasBits(ORDER_BITS)) {
                 return -3;
             }
-            int order = LOWEST_ORDER + takeBits(ORDER_BITS);
+            int order = LOWEST_ORDER + row.takeBits(ORDER_BITS);
             if (order > most) {
                 return -1;
             }
@@ -579,7 +599,7 @@ public final class StateCoder {
             int lack = 1 << order;
             int symbol = 0;
             while (symbol >= 0 && symbol <= last && symbol < points.length) {
-                int v = takeNumber(lack);
+                int v = takeNumber(row, lack);
                 if (v < 0) {
                     return -3;
                 }
@@ -588,47 +608,40 @@ public final class StateCoder {
                 if (lack <= 0) {
                     return order;
                 }
-                symbol = v == 1 ? behindZeros(symbol + 1, last) : symbol + 1;
+                symbol = v == 1 ? behindZeros(row, symbol + 1, last) : symbol + 1;
             }
-            // Either IN ended in telling zeros, or last has its points and something lacks.
+            // Either the row ended in telling zeros, or last has its points and something lacks.
             return symbol < 0 ? -3 : -2;
         }
 
-        private boolean hasBits(int n) {
-            return bit + n <= 8 * (row.length() - start);
-        }
-
-        private int takeBits(int n) {
-            int number = row.number(start, bit, n);
-            bit += n;
-            return number;
-        }
-
-        /** The number of a symbol, or -1 if IN ends before it does. */
-        private int takeNumber(int lack) {
+        /** The number of a symbol, or -1 if the row ends before it does. */
+        private static int takeNumber(Row row, int lack) {
             int n = NumberForm.shortBits(lack);
             int firstLong = NumberForm.firstLong(lack);
-            if (!hasBits(n)) {
+            if (!row.hasBits(n)) {
                 return -1;
             }
-            if (row.number(start, bit, n) < firstLong) {
-                return takeBits(n);
+            if (row.nextBits(n) < firstLong) {
+                return row.takeBits(n);
             }
-            if (!hasBits(n + 1)) {
+            if (!row.hasBits(n + 1)) {
                 return -1;
             }
-            int v = takeBits(n + 1);
+            int v = row.takeBits(n + 1);
             return v < NumberForm.firstShifted(lack) ? v : v - firstLong;
         }
 
-        /** The symbol behind those that are said to have 0 points, or -1 if IN ends; nothing is read once last has its points. */
-        private int behindZeros(int from, int last) {
+        /**
+         * The symbol behind those that are said to have 0 points, or -1 if the row ends. Nothing is read once
+         * last has its points: something lacks then, and that comes before the row's end.
+         */
+        private static int behindZeros(Row row, int from, int last) {
             int symbol = from;
             while (symbol <= last) {
-                if (!hasBits(ZEROS_BITS)) {
+                if (!row.hasBits(ZEROS_BITS)) {
                     return -1;
                 }
-                int zeros = takeBits(ZEROS_BITS);
+                int zeros = row.takeBits(ZEROS_BITS);
                 if (zeros < 3) {
                     return symbol + zeros;
                 }
