@@ -4,35 +4,31 @@ import java.util.List;
 import java.util.Random;
 
 /** Runs of calls on the class and on a slow model that follows the document's words; the runs are the same each time. */
-public final class ModelTest {
-    private static final int RUNS = 600;
-    private static final int CALLS = 250;
-    private static int wrong = 0;
+public final class ModelTest extends Checks {
+    private static final int RUNS = 5000;
+    /** As many calls as one step of a run and the look at the state behind the last one take at most. */
+    private static final int CALLS_KEPT = 240;
 
     private final Random random;
-    private final StateCoder coder = new StateCoder();
+    private final Coder coder = new Coder();
     private final Model model = new Model();
-    private final int run;
     private int alphabet;
 
     private ModelTest(int run) {
-        this.run = run;
+        sentence("run " + run);
         random = new Random(run);
         alphabet = new int[] {1, 2, 3, 5, 12, 40, 256}[random.nextInt(7)];
     }
 
     public static void main(String[] args) {
-        for (int run = 0; run < RUNS && wrong < 20; run++) {
+        for (int run = 0; run < RUNS && noneWrong(); run++) {
             new ModelTest(run).calls();
         }
-        System.out.println(wrong == 0 ? "all answers are as due" : wrong + " answers are not as due");
-        if (wrong != 0) {
-            System.exit(1);
-        }
+        end();
     }
 
     private void calls() {
-        for (int i = 0; i < CALLS && wrong < 20; i++) {
+        while (coder.callsLeft() > CALLS_KEPT && noneWrong()) {
             oneCall();
         }
         compareState();
@@ -108,11 +104,11 @@ public final class ModelTest {
     private void justSome() {
         int order = 5 + random.nextInt(8);
         int left = 1 << order;
-        for (int s = 0; s < 256; s++) {
-            if (model.counts[s] != 0) {
-                setCount(s, 0);
-            }
-        }
+        int place = model.place;
+        int end = model.in.size();
+        due("place " + end, coder.place(end), model.place(end));
+        due("countAll", coder.countAll(), model.countAll());
+        due("place " + place, coder.place(place), model.place(place));
         for (int i = 0; i < 10 && left > 1; i++) {
             int symbol = random.nextInt(alphabet);
             if (model.counts[symbol] == 0) {
@@ -184,34 +180,34 @@ public final class ModelTest {
     }
 
     private void compareOut() {
-        due("size", coder.size(), model.out.size());
-        for (int k = -1; k <= Math.min(model.out.size(), 60); k++) {
-            due("byteAt " + k, coder.byteAt(k), model.byteAt(k));
+        int size = model.out.size();
+        due("size", coder.size(), size);
+        for (int k = -1; k <= Math.min(size, 8); k++) {
+            compareByte(k);
         }
-        int end = model.out.size() - 1;
-        due("byteAt " + end, coder.byteAt(end), model.byteAt(end));
+        for (int i = 0; i < 6; i++) {
+            compareByte(random.nextInt(size + 1));
+            compareByte(size - i);
+        }
+    }
+
+    private void compareByte(int k) {
+        due("byteAt " + k, coder.byteAt(k), model.byteAt(k));
     }
 
     private void compareState() {
         compareOut();
-        for (int s = -1; s <= 256; s++) {
+        due("at", coder.at(), model.place);
+        for (int i = 0; i < 30; i++) {
+            int s = random.nextInt(alphabet);
             due("points " + s, coder.points(s), model.points(s));
         }
-        for (int k = -1; k <= 4096; k++) {
+        int cells = 1 << Math.max(model.about(0), 5);
+        for (int i = 0; i < 30; i++) {
+            int k = random.nextInt(cells);
             for (int what = 0; what < 3; what++) {
                 due("cell " + k + " " + what, coder.cell(k, what), model.cell(k, what));
             }
-        }
-    }
-
-    private void due(String call, boolean got, boolean want) {
-        due(call, got ? 1 : 0, want ? 1 : 0);
-    }
-
-    private void due(String call, int got, int want) {
-        if (got != want) {
-            wrong++;
-            System.out.println("run " + run + ": " + call + " answered " + got + ", due is " + want);
         }
     }
 

@@ -1,9 +1,6 @@
-import java.util.Arrays;
-
 /** Each promise by hand: ordinary inputs, the edges that the document names, and wrong inputs. */
-public final class PromiseTest {
+public final class PromiseTest extends Checks {
     private static final int[] FAR = {Integer.MIN_VALUE, -1000000, -1, 256, 257, 4096, 6001, Integer.MAX_VALUE};
-    private static int wrong = 0;
 
     public static void main(String[] args) {
         newObject();
@@ -31,14 +28,11 @@ public final class PromiseTest {
         decode();
         decodeRefused();
         sizeAndByteAt();
-        System.out.println(wrong == 0 ? "all answers are as due" : wrong + " answers are not as due");
-        if (wrong != 0) {
-            System.exit(1);
-        }
+        end();
     }
 
     private static void newObject() {
-        StateCoder x = new StateCoder();
+        Coder x = new Coder();
         due("1 size", x.size(), 0);
         due("1 at", x.at(), 0);
         due("1 byteAt", x.byteAt(0), -1);
@@ -56,11 +50,11 @@ public final class PromiseTest {
             due("1 just, no counts", x.just(order), false);
         }
         due("1 countAll", x.countAll(), 0);
-        due("1 IN", inBytes(x), bytes());
+        due("1 IN", x.inBytes(), bytes());
     }
 
     private static void write() {
-        StateCoder x = new StateCoder();
+        Coder x = new Coder();
         due("2 eight", x.write(0x0102030405060708L, 8), true);
         due("2 two lowest", x.write(0xAABBCCL, 2), true);
         due("2 high bit", x.write(-2L, 1), true);
@@ -68,9 +62,9 @@ public final class PromiseTest {
         for (int n : new int[] {0, 9, 16, 64, -1, Integer.MIN_VALUE, Integer.MAX_VALUE}) {
             due("2 n " + n, x.write(0x1122334455667788L, n), false);
         }
-        due("2 IN", inBytes(x), bytes(1, 2, 3, 4, 5, 6, 7, 8, 0xBB, 0xCC, 0xFE, 0xFF, 0, 0, 0, 0, 0, 0, 0x80));
+        due("2 IN", x.inBytes(), bytes(1, 2, 3, 4, 5, 6, 7, 8, 0xBB, 0xCC, 0xFE, 0xFF, 0, 0, 0, 0, 0, 0, 0x80));
         for (int n = 1; n <= 8; n++) {
-            StateCoder y = new StateCoder();
+            Coder y = new Coder();
             due("2 each n", y.write(0x8182838485868788L, n), true);
             due("2 length", y.place(n), true);
             due("2 not longer", y.place(n + 1), false);
@@ -79,35 +73,35 @@ public final class PromiseTest {
     }
 
     private static void writeUpToTheLimit() {
-        StateCoder x = fullOf(9, 5999);
+        Coder x = Coder.fullOf(9, 5999);
         due("2 5999 and 2", x.write(0x0101L, 2), false);
         due("2 nothing appended", x.place(6000), false);
         due("2 5999 and 1", x.write(1L, 1), true);
         due("2 6000", x.place(6000), true);
         due("2 6000 and 1", x.write(1L, 1), false);
-        StateCoder y = fullOf(9, 5992);
+        Coder y = Coder.fullOf(9, 5992);
         due("2 5992 and 8", y.write(1L, 8), true);
         due("2 6000 and 8", y.write(1L, 8), false);
-        StateCoder z = fullOf(9, 5993);
+        Coder z = Coder.fullOf(9, 5993);
         due("2 5993 and 8", z.write(1L, 8), false);
         due("2 5993 and 7", z.write(1L, 7), true);
     }
 
     private static void turn() {
-        StateCoder x = onlySymbol(7);
+        Coder x = Coder.onlySymbol(7);
         x.write(0x070707, 3);
         due("3 encode", x.encode(), 1);
         x.place(2);
         x.turn();
         due("3 PLACE", x.at(), 0);
-        due("3 OUT stays", outBytes(x), bytes(32));
+        due("3 OUT stays", x.outBytes(), bytes(32));
         due("3 length", x.place(1), true);
         due("3 not longer", x.place(2), false);
         due("3 count stays", x.just(5), true);
         due("3 IN and OUT are two rows", x.write(5, 1) && x.size() == 1, true);
         x.place(0);
-        due("3 IN", inBytes(x), bytes(32, 5));
-        StateCoder y = new StateCoder();
+        due("3 IN", x.inBytes(), bytes(32, 5));
+        Coder y = new Coder();
         y.write(5, 8);
         y.place(8);
         y.turn();
@@ -116,7 +110,7 @@ public final class PromiseTest {
     }
 
     private static void clear() {
-        StateCoder x = onlySymbol(7);
+        Coder x = Coder.onlySymbol(7);
         x.write(0x0707, 2);
         x.encode();
         x.place(1);
@@ -125,10 +119,10 @@ public final class PromiseTest {
         due("4 IN", x.place(1), false);
         due("4 counts", x.share(5), false);
         due("4 share stays", x.points(7), 32);
-        due("4 OUT stays", outBytes(x), bytes(32));
+        due("4 OUT stays", x.outBytes(), bytes(32));
         due("4 write anew", x.write(3, 1), true);
-        due("4 IN anew", inBytes(x), bytes(3));
-        StateCoder y = new StateCoder();
+        due("4 IN anew", x.inBytes(), bytes(3));
+        Coder y = new Coder();
         for (int s = 0; s < 256; s++) {
             y.count(s, 1);
         }
@@ -139,7 +133,7 @@ public final class PromiseTest {
     }
 
     private static void placeAndAt() {
-        StateCoder x = new StateCoder();
+        Coder x = new Coder();
         x.write(1, 5);
         for (int p = 0; p <= 5; p++) {
             due("5 place", x.place(p), true);
@@ -154,7 +148,7 @@ public final class PromiseTest {
     }
 
     private static void count() {
-        StateCoder x = new StateCoder();
+        Coder x = new Coder();
         due("7 lowest", x.count(0, 1), true);
         due("7 highest", x.count(255, 65535), true);
         due("7 zero", x.count(3, 0), true);
@@ -172,7 +166,7 @@ public final class PromiseTest {
     }
 
     private static void countAll() {
-        StateCoder x = new StateCoder();
+        Coder x = new Coder();
         x.count(77, 1000);
         x.write(0xFF00FF80FFL, 5);
         x.place(1);
@@ -186,34 +180,34 @@ public final class PromiseTest {
         x.place(5);
         due("8 at the end", x.countAll(), 0);
         due("8 all 0", x.share(5), false);
-        due("8 6000", fullOf(200, 6000).countAll(), 6000);
+        due("8 6000", Coder.fullOf(200, 6000).countAll(), 6000);
     }
 
     private static void shareByRule() {
         // 10 + 10 + 10 = 30: 32 / 3 is 10 each, 2 lack, all cut alike: the lower symbols get them.
-        due("9 same cut", sharePoints(5, 1, 1, 1), bytes(11, 11, 10));
+        due("9 same cut", shared(5, 1, 1, 1), bytes(11, 11, 10));
         // 5 of 7: 22 and 6/7; 2 of 7: 9 and 1/7.
-        due("9 greatest cut", sharePoints(5, 2, 5), bytes(9, 23));
+        due("9 greatest cut", shared(5, 2, 5), bytes(9, 23));
         // 1/6 of 32 is 5 and 2/6; 2/6 is 10 and 4/6; 3/6 is 16.
-        due("9 nothing cut gets none", sharePoints(5, 3, 1, 2), bytes(16, 5, 11));
+        due("9 nothing cut gets none", shared(5, 3, 1, 2), bytes(16, 5, 11));
         // 32 c / 33: a 1 is -1, weight 1; 32 is 31 and something.
-        due("9 below one point", sharePoints(5, 1, 32), bytes(-1, 31));
+        due("9 below one point", shared(5, 1, 32), bytes(-1, 31));
         // 32 c / 32: exactly one point is 1, not -1.
-        due("9 just one point", sharePoints(5, 1, 31), bytes(1, 31));
+        due("9 just one point", shared(5, 1, 31), bytes(1, 31));
         // 31 and 1 of 10000 each: 32 * 10000 / 10031 is 31; 32 * 31 is below 10031.
-        due("9 nothing lacks", sharePoints(5, 31, 10000), bytes(-1, 31));
+        due("9 nothing lacks", shared(5, 31, 10000), bytes(-1, 31));
         // Three of -1 and 32 * 1000 / 2003 = 15 twice: 33, one too much, from the lowest of the most.
-        due("9 too much, same points", sharePoints(5, 1, 1000, 1, 1000, 1), bytes(-1, 14, -1, 15, -1));
+        due("9 too much, same points", shared(5, 1, 1000, 1, 1000, 1), bytes(-1, 14, -1, 15, -1));
         // T = 41: a 1 is -1, what was cut from it does not count; 20 is 15 and 25/41 twice, 1 lacks.
-        due("9 -1 gets none", sharePoints(5, 1, 20, 20), bytes(-1, 16, 15));
-        due("9 alone", sharePoints(12, 0, 0, 65535), bytes(0, 0, 4096));
-        due("9 alone, count 1", sharePoints(5, 1), bytes(32));
+        due("9 -1 gets none", shared(5, 1, 20, 20), bytes(-1, 16, 15));
+        due("9 alone", shared(12, 0, 0, 65535), bytes(0, 0, 4096));
+        due("9 alone, count 1", shared(5, 1), bytes(32));
         takenAgainAndAgain();
         manySymbols();
     }
 
     private static void takenAgainAndAgain() {
-        StateCoder x = new StateCoder();
+        Coder x = new Coder();
         // 20 symbols of 1 and two of 1000: T = 2020, 15 points each, 20 + 30 = 50, 18 too much.
         for (int s = 0; s < 20; s++) {
             x.count(10 + s, 1);
@@ -232,7 +226,7 @@ public final class PromiseTest {
     }
 
     private static void manySymbols() {
-        StateCoder x = new StateCoder();
+        Coder x = new Coder();
         for (int s = 0; s < 256; s++) {
             x.count(s, 65535);
         }
@@ -242,7 +236,7 @@ public final class PromiseTest {
         due("9 16 each", x.points(0) == 16 && x.points(255) == 16, true);
         due("9 256 of order 7", x.share(7), false);
         due("9 refused: stays", x.about(0), 12);
-        StateCoder y = new StateCoder();
+        Coder y = new Coder();
         for (int s = 0; s < 31; s++) {
             y.count(s, 1);
         }
@@ -256,7 +250,7 @@ public final class PromiseTest {
     }
 
     private static void shareRefused() {
-        StateCoder x = new StateCoder();
+        Coder x = new Coder();
         x.count(1, 1);
         due("9 order 6", x.share(6), true);
         for (int order : new int[] {4, 13, 0, -1, 32, 37, Integer.MIN_VALUE, Integer.MAX_VALUE}) {
@@ -269,7 +263,7 @@ public final class PromiseTest {
     }
 
     private static void just() {
-        StateCoder x = new StateCoder();
+        Coder x = new Coder();
         x.count(0, 65535);
         x.count(9, 14);
         x.count(255, 17);
@@ -299,28 +293,28 @@ public final class PromiseTest {
     private static void describe() {
         // Order 5: 0000. Lack 32: t 32, m 30; v 30 is long and itself: 6 bits 011110 from its lowest on.
         // Lack 3: t 4, m 3; v 4 is long, 4 + 3 = 7 in 3 bits.
-        due("11 long and itself", described(5, 29, 3), bits("0000" + "011110" + "111"));
+        due("11 long and itself", described(5, 29, 3), Bits.bytes("0000" + "011110" + "111"));
         // v 29 is short: 5 bits. Lack 4: t 4, m 2; v 1 is short in 2 bits; 0 zeros; v 5: long, 5 + 2 = 7.
-        due("11 short, a zero", described(5, 28, 0, 4), bits("0000" + "10111" + "10" + "00" + "111"));
+        due("11 short, a zero", described(5, 28, 0, 4), Bits.bytes("0000" + "10111" + "10" + "00" + "111"));
         // v 32 is long and shifted: 32 + 30 = 62. Lack 1: t 2, m 1; v 2 is long: 2 + 1 = 3 in 2 bits.
-        due("11 shifted", described(5, 31, 1), bits("0000" + "011111" + "11"));
+        due("11 shifted", described(5, 31, 1), Bits.bytes("0000" + "011111" + "11"));
         // Lack 1 with -1 points: v 0 is short, 1 bit.
-        due("11 -1 at last", described(5, 31, -1), bits("0000" + "011111" + "0"));
+        due("11 -1 at last", described(5, 31, -1), Bits.bytes("0000" + "011111" + "0"));
         // Zeros at the begin: symbol 0, then 1, 2 or 3 more.
-        due("11 one zero", described(5, 0, 32), bits("0000" + "10000" + "00" + "111111"));
-        due("11 two zeros", described(5, 0, 0, 32), bits("0000" + "10000" + "10" + "111111"));
-        due("11 three zeros", described(5, 0, 0, 0, 32), bits("0000" + "10000" + "01" + "111111"));
-        due("11 four zeros", described(5, 0, 0, 0, 0, 32), bits("0000" + "10000" + "11" + "00" + "111111"));
-        due("11 five zeros", described(5, 0, 0, 0, 0, 0, 32), bits("0000" + "10000" + "11" + "10" + "111111"));
+        due("11 one zero", described(5, 0, 32), Bits.bytes("0000" + "10000" + "00" + "111111"));
+        due("11 two zeros", described(5, 0, 0, 32), Bits.bytes("0000" + "10000" + "10" + "111111"));
+        due("11 three zeros", described(5, 0, 0, 0, 32), Bits.bytes("0000" + "10000" + "01" + "111111"));
+        due("11 four zeros", described(5, 0, 0, 0, 0, 32), Bits.bytes("0000" + "10000" + "11" + "00" + "111111"));
+        due("11 five zeros", described(5, 0, 0, 0, 0, 0, 32), Bits.bytes("0000" + "10000" + "11" + "10" + "111111"));
         // Order 12: 7 in 4 bits. Lack 4096: t 4096, m 4094; v 4097 + 4094 = 8191 in 13 bits.
-        due("11 order 12", described(12, 4096), bits("1110" + "1111111111111"));
-        StateCoder x = onlySymbol(255);
+        due("11 order 12", described(12, 4096), Bits.bytes("1110" + "1111111111111"));
+        Coder x = Coder.onlySymbol(255);
         StringBuilder zeros = new StringBuilder("0000" + "10000");
         for (int i = 0; i < 84; i++) {
             zeros.append("11");
         }
-        due("11 symbol 255", x.describe(), bits(zeros + "01" + "111111").length);
-        due("11 symbol 255, bytes", outBytes(x), bits(zeros + "01" + "111111"));
+        due("11 symbol 255", x.describe(), Bits.bytes(zeros + "01" + "111111").length);
+        due("11 symbol 255, bytes", x.outBytes(), Bits.bytes(zeros + "01" + "111111"));
         due("11 again", x.describe() == x.size() && x.points(255) == 32, true);
     }
 
@@ -329,9 +323,9 @@ public final class PromiseTest {
         for (int[] points : shares) {
             int[] written = described(5, points);
             int length = written.length;
-            StateCoder y = new StateCoder();
+            Coder y = new Coder();
             y.write(0xEEEE, 2);
-            appendBytes(y, written);
+            y.appendBytes(written);
             y.write(0xFF, 1);
             y.place(2);
             due("12 order", y.read(5, points.length - 1), 5);
@@ -342,7 +336,7 @@ public final class PromiseTest {
             due("12 LAST", y.about(1), points.length - 1);
             due("12 others", y.points(points.length), 0);
         }
-        StateCoder z = withBits("1110" + "1111111111111");
+        Coder z = Coder.withBits("1110" + "1111111111111");
         due("12 order 12", z.read(12, 0), 12);
         due("12 4096", z.points(0), 4096);
         due("12 cells of it", z.cell(4095, 2), 4095);
@@ -350,7 +344,7 @@ public final class PromiseTest {
     }
 
     private static void readRefused() {
-        StateCoder x = withBits("0000" + "111111");
+        Coder x = Coder.withBits("0000" + "111111");
         due("12 first", x.read(5, 255), 5);
         x.place(0);
         for (int most : new int[] {4, 13, -1, Integer.MIN_VALUE, Integer.MAX_VALUE}) {
@@ -361,7 +355,7 @@ public final class PromiseTest {
         }
         due("12 PLACE stays", x.at(), 0);
         for (int order = 6; order <= 20; order++) {
-            StateCoder y = withBits(lowestFirst(order - 5, 4) + "0000");
+            Coder y = Coder.withBits(Bits.lowestFirst(order - 5, 4) + "0000");
             for (int most = 5; most <= 12 && most < order; most++) {
                 due("12 order above most", y.read(most, 0), -1);
             }
@@ -371,14 +365,14 @@ public final class PromiseTest {
         }
         // Symbol 0 has 0 points, the next two as well, then symbol 3 all.
         String three = "0000" + "10000" + "01" + "111111";
-        due("12 last as due", withBits(three).read(5, 3), 5);
+        due("12 last as due", Coder.withBits(three).read(5, 3), 5);
         for (int last = 0; last < 3; last++) {
-            StateCoder y = onlySymbol(6);
-            appendBits(y, three);
+            Coder y = Coder.onlySymbol(6);
+            y.appendBits(three);
             due("12 above last", y.read(5, last), -2);
             due("12 stays", y.points(6) == 32 && y.points(3) == 0 && y.at() == 0, true);
         }
-        StateCoder e = onlySymbol(6);
+        Coder e = Coder.onlySymbol(6);
         e.write(0, 1);
         e.place(1);
         due("12 at the end", e.read(5, 255), -3);
@@ -386,7 +380,7 @@ public final class PromiseTest {
         due("12 a cut number", e.read(5, 255), -3);
         due("12 stays when cut", e.points(6) == 32 && e.at() == 0, true);
         // Order 12, 0 points, and then zeros without end.
-        StateCoder zeros = withBits("1110" + "100000000000");
+        Coder zeros = Coder.withBits("1110" + "100000000000");
         for (int i = 0; i < 30; i++) {
             zeros.write(-1L, 8);
         }
@@ -396,54 +390,54 @@ public final class PromiseTest {
 
     private static void readFirstOfSeveral() {
         // Order above most comes before all else.
-        due("12 -1 before -3", withBits("1000").read(5, 0), -1);
+        due("12 -1 before -3", Coder.withBits("1000").read(5, 0), -1);
         // 31 points, then 1 lacks: last is 0, so -2 although IN goes on or ends.
-        due("12 -2, something lacks", withBits("0000" + "011111" + "111111").read(5, 0), -2);
+        due("12 -2, something lacks", Coder.withBits("0000" + "011111" + "111111").read(5, 0), -2);
         // Order 5, symbol 0 has 0 points, then zeros: 3, 3, 3 and a bit that is no number of 2.
-        StateCoder x = withBits("0000" + "10000" + "11" + "11" + "11" + "0");
+        Coder x = Coder.withBits("0000" + "10000" + "11" + "11" + "11" + "0");
         due("12 zeros cut by the end", x.read(5, 255), -3);
         due("12 zeros above last", x.read(5, 5), -2);
         due("12 last told by zeros, IN goes on", x.read(5, 6), -2);
         due("12 last told by zeros, IN ends", x.read(5, 9), -2);
         due("12 IN ends before last", x.read(5, 10), -3);
         // 22 points; lack 10: -1 points; lack 9: 0 points; and one bit where 2 are due.
-        StateCoder y = withBits("0000" + "11101" + "000" + "100" + "0");
+        Coder y = Coder.withBits("0000" + "11101" + "000" + "100" + "0");
         due("12 IN's end before the zeros", y.read(5, 3), -3);
         due("12 last has 0 points before IN's end", y.read(5, 2), -2);
         due("12 last has -1 points, something lacks", y.read(5, 1), -2);
         due("12 last has points, something lacks", y.read(5, 0), -2);
         // 12 bits are left: 4095 is no short number of order 12, 4093 is one.
-        due("12 a long number cut", withBits("1110" + "111111111111").read(12, 255), -3);
-        due("12 a long number cut, last 0", withBits("1110" + "111111111111").read(12, 0), -3);
-        due("12 a short number not cut", withBits("1110" + "101111111111").read(12, 0), -2);
-        due("12 the next one cut", withBits("1110" + "101111111111").read(12, 1), -3);
+        due("12 a long number cut", Coder.withBits("1110" + "111111111111").read(12, 255), -3);
+        due("12 a long number cut, last 0", Coder.withBits("1110" + "111111111111").read(12, 0), -3);
+        due("12 a short number not cut", Coder.withBits("1110" + "101111111111").read(12, 0), -2);
+        due("12 the next one cut", Coder.withBits("1110" + "101111111111").read(12, 1), -3);
     }
 
     private static void readIgnoresWhatIsBehind() {
         // Filling bits that are not 0 are no fault that the promise names.
-        StateCoder x = withBits("0000" + "111111" + "111111");
+        Coder x = Coder.withBits("0000" + "111111" + "111111");
         due("12 filled otherwise", x.read(5, 255), 5);
         due("12 PLACE behind it", x.at(), 2);
         // A 0 said by a number behind said zeros is read as it stands.
-        StateCoder y = withBits("0000" + "10000" + "00" + "10000" + "00" + "111111");
+        Coder y = Coder.withBits("0000" + "10000" + "00" + "10000" + "00" + "111111");
         due("12 zeros in two parts", y.read(5, 2), 5);
         due("12 and then", y.points(2), 32);
     }
 
     private static void about() {
-        StateCoder x = withPoints(7, 0, 100, 0, -1, 27);
+        Coder x = Coder.withPoints(7, 0, 100, 0, -1, 27);
         due("13 order", x.about(0), 7);
         due("13 LAST", x.about(1), 4);
         for (int what : new int[] {2, -1, 3, Integer.MIN_VALUE, Integer.MAX_VALUE}) {
             due("13 what", x.about(what), -1);
         }
-        due("13 LAST has -1", withPoints(5, 31, -1).about(1), 1);
-        due("13 LAST 0", onlySymbol(0).about(1), 0);
-        due("13 LAST 255", onlySymbol(255).about(1), 255);
+        due("13 LAST has -1", Coder.withPoints(5, 31, -1).about(1), 1);
+        due("13 LAST 0", Coder.onlySymbol(0).about(1), 0);
+        due("13 LAST 255", Coder.onlySymbol(255).about(1), 255);
     }
 
     private static void points() {
-        StateCoder x = withPoints(5, -1, 0, 31);
+        Coder x = Coder.withPoints(5, -1, 0, 31);
         due("14 -1", x.points(0), -1);
         due("14 0", x.points(1), 0);
         due("14 31", x.points(2), 31);
@@ -456,7 +450,7 @@ public final class PromiseTest {
     private static void cells() {
         // Order 5, step 23: 0 23 14 5 28 19 10 1 24 15 6 29 20 11 2 25 16 7 30 21 12 3 26 17 8 31 22 13 4 27 18 9.
         // Symbols 1 and 3 have 31 and 30, which are left out: symbol 0 has 3, symbol 2 has 27.
-        StateCoder x = withPoints(5, 3, -1, 27, -1);
+        Coder x = Coder.withPoints(5, 3, -1, 27, -1);
         int[] zeroes = {0, 14, 23};
         for (int k = 0; k < 30; k++) {
             due("15 symbol of " + k, x.cell(k, 0), k == 0 || k == 14 || k == 23 ? 0 : 2);
@@ -479,7 +473,7 @@ public final class PromiseTest {
         for (int what : new int[] {-1, 3, Integer.MIN_VALUE, Integer.MAX_VALUE}) {
             due("15 what", x.cell(0, what), -1);
         }
-        StateCoder y = withPoints(12, 4096);
+        Coder y = Coder.withPoints(12, 4096);
         due("15 highest cell", y.cell(4095, 0), 0);
         due("15 above it", y.cell(4096, 0), -1);
         due("15 a smaller share", y.count(0, 32) && y.just(5), true);
@@ -489,14 +483,14 @@ public final class PromiseTest {
 
     private static void leftOutCells() {
         // 10 symbols of -1 have 31 .. 22; so 23, 28, 24, .. are left out: 0 14 5 19 10 1 15 ..
-        StateCoder x = withPoints(5, -1, -1, -1, -1, -1, -1, -1, -1, -1, -1, 4, 18);
+        Coder x = Coder.withPoints(5, -1, -1, -1, -1, -1, -1, -1, -1, -1, -1, 4, 18);
         for (int s = 0; s < 10; s++) {
             due("15 -1 in rising order", x.cell(31 - s, 0), s);
         }
         for (int k = 0; k < 22; k++) {
             due("15 left out", x.cell(k, 0), k == 0 || k == 14 || k == 5 || k == 19 ? 10 : 11);
         }
-        StateCoder y = new StateCoder();
+        Coder y = new Coder();
         for (int s = 0; s < 32; s++) {
             y.count(2 * s, 65535);
         }
@@ -510,29 +504,29 @@ public final class PromiseTest {
     private static void encode() {
         int[] mixed = {3, -1, 27, -1};
         // Symbol 0 has cells 0 (16 .. 31), 14 (0 .. 7) and 23 (8 .. 15); symbol 1 has cell 31, symbol 3 has cell 30.
-        due("16 alone", encoded(mixed, 0), bits("00000" + "1"));
-        due("16 alone, -1", encoded(mixed, 1), bits("11111" + "1"));
-        due("16 alone, lowest cell", encoded(mixed, 2), bits("10000" + "1"));
-        due("16 two", encoded(mixed, 0, 1), bits("1111" + "00000" + "1"));
-        due("16 three", encoded(mixed, 0, 0, 1), bits("1111" + "000" + "01110" + "1"));
-        due("16 four", encoded(mixed, 1, 0, 0, 1), bits("1111" + "000" + "01110" + "11111" + "1"));
-        due("16 -1 behind -1", encoded(mixed, 1, 3, 1), bits("11111" + "01111" + "11111" + "1"));
-        due("16 no bits", encoded(new int[] {32}, 0, 0, 0), bits("00000" + "1"));
-        StateCoder x = withPoints(5, mixed);
+        due("16 alone", encoded(mixed, 0), Bits.bytes("00000" + "1"));
+        due("16 alone, -1", encoded(mixed, 1), Bits.bytes("11111" + "1"));
+        due("16 alone, lowest cell", encoded(mixed, 2), Bits.bytes("10000" + "1"));
+        due("16 two", encoded(mixed, 0, 1), Bits.bytes("1111" + "00000" + "1"));
+        due("16 three", encoded(mixed, 0, 0, 1), Bits.bytes("1111" + "000" + "01110" + "1"));
+        due("16 four", encoded(mixed, 1, 0, 0, 1), Bits.bytes("1111" + "000" + "01110" + "11111" + "1"));
+        due("16 -1 behind -1", encoded(mixed, 1, 3, 1), Bits.bytes("11111" + "01111" + "11111" + "1"));
+        due("16 no bits", encoded(new int[] {32}, 0, 0, 0), Bits.bytes("00000" + "1"));
+        Coder x = Coder.withPoints(5, mixed);
         x.write(0x09020001, 4);
         x.place(2);
         due("16 from PLACE on", x.encode(), 2);
-        due("16 from PLACE on, bytes", outBytes(x), bits("1111" + "00000" + "1"));
+        due("16 from PLACE on, bytes", x.outBytes(), Bits.bytes("1111" + "00000" + "1"));
         due("16 PLACE stays", x.at(), 2);
         due("16 IN stays", x.place(4) && !x.place(5) && x.place(0), true);
-        due("16 IN's bytes stay", inBytes(x), bytes(9, 2, 0, 1));
+        due("16 IN's bytes stay", x.inBytes(), bytes(9, 2, 0, 1));
     }
 
     private static void encodeRefused() {
-        StateCoder none = new StateCoder();
+        Coder none = new Coder();
         none.write(1, 1);
         due("16 no share", none.encode(), -1);
-        StateCoder x = onlySymbol(7);
+        Coder x = Coder.onlySymbol(7);
         due("16 no byte", x.encode(), -2);
         x.write(0x0707, 2);
         due("16 before", x.encode(), 1);
@@ -548,18 +542,18 @@ public final class PromiseTest {
         due("16 weight 0, first", x.encode(), -3);
         x.place(3);
         due("16 weight 0, before PLACE", x.encode(), 1);
-        due("16 OUT", outBytes(x), bytes(32));
+        due("16 OUT", x.outBytes(), bytes(32));
         x.place(2);
         due("16 refused", x.encode(), -3);
-        due("16 OUT stays", outBytes(x), bytes(32));
+        due("16 OUT stays", x.outBytes(), bytes(32));
         x.place(4);
         due("16 refused, no byte", x.encode(), -2);
-        due("16 OUT stays still", outBytes(x), bytes(32));
+        due("16 OUT stays still", x.outBytes(), bytes(32));
     }
 
     private static void encodeLimit() {
         // At order 8, a symbol of weight 1 takes 8 bits; the 1 at last takes a byte more.
-        StateCoder x = fullOf(9, 6000);
+        Coder x = Coder.fullOf(9, 6000);
         x.count(9, 65535);
         x.count(8, 255);
         due("16 just", x.just(8), true);
@@ -577,7 +571,7 @@ public final class PromiseTest {
         due("16 back", x.decode(5999), 5999);
         due("16 back, last", x.byteAt(5998), 9);
         // 4000 symbols of 12 bits are 6001 bytes; a weight of 0 is told before that.
-        StateCoder y = new StateCoder();
+        Coder y = new Coder();
         y.write(0x0809090909090909L, 8);
         for (int i = 1; i < 500; i++) {
             y.write(0x0909090909090909L, 8);
@@ -602,29 +596,29 @@ public final class PromiseTest {
         due("17 two", decoded(mixed, "1111" + "00000" + "1", 2), bytes(0, 1));
         due("17 four", decoded(mixed, "1111" + "000" + "01110" + "11111" + "1", 4), bytes(1, 0, 0, 1));
         due("17 bits left, nothing becomes OUT", decoded(mixed, "10111" + "01" + "1", 1), bytes());
-        StateCoder x = withPoints(5, mixed);
+        Coder x = Coder.withPoints(5, mixed);
         x.write(0xFFFF, 2);
-        appendBits(x, "1111" + "00000" + "1");
+        x.appendBits("1111" + "00000" + "1");
         x.place(2);
         due("17 from PLACE on", x.decode(2), 2);
-        due("17 from PLACE on, row", outBytes(x), bytes(0, 1));
+        due("17 from PLACE on, row", x.outBytes(), bytes(0, 1));
         due("17 PLACE stays", x.at(), 2);
         due("17 IN stays", x.place(4) && !x.place(5), true);
-        due("17 6000", fullOf(200, 6000).countAll(), 6000);
-        StateCoder y = onlySymbol(200);
+        due("17 6000", Coder.fullOf(200, 6000).countAll(), 6000);
+        Coder y = Coder.onlySymbol(200);
         y.write(32, 1);
         due("17 n 6000", y.decode(6000), 6000);
         due("17 n 6000, row", y.byteAt(0) == 200 && y.byteAt(5999) == 200 && y.byteAt(6000) == -1, true);
         due("17 n 1", y.decode(1), 1);
-        due("17 n 1, row", outBytes(y), bytes(200));
+        due("17 n 1, row", y.outBytes(), bytes(200));
     }
 
     private static void decodeRefused() {
-        StateCoder none = new StateCoder();
+        Coder none = new Coder();
         due("17 no share, no byte", none.decode(1), -1);
         none.write(255, 1);
         due("17 no share", none.decode(1), -1);
-        StateCoder x = withPoints(5, 16, 16);
+        Coder x = Coder.withPoints(5, 16, 16);
         for (int n : new int[] {0, -1, 6001, Integer.MIN_VALUE, Integer.MAX_VALUE}) {
             due("17 n " + n, x.decode(n), -1);
         }
@@ -641,16 +635,16 @@ public final class PromiseTest {
         x.place(2);
         // The bits 11111000 stand below the END; each symbol takes 1 bit, the state 5.
         due("17 8 bits, 4 symbols", x.decode(4), 4);
-        int[] before = outBytes(x);
+        int[] before = x.outBytes();
         due("17 a bit not read", x.decode(3), -4);
         due("17 bits not read", x.decode(1), -4);
         due("17 a bit lacks", x.decode(5), -3);
         due("17 bits lack", x.decode(6000), -3);
         x.place(4);
         due("17 no byte at all", x.decode(4), -2);
-        due("17 OUT stays", outBytes(x), before);
+        due("17 OUT stays", x.outBytes(), before);
         // Bits lack within a row although bits of bytes before PLACE are there.
-        StateCoder y = withPoints(5, 16, 16);
+        Coder y = Coder.withPoints(5, 16, 16);
         y.write(0xFF20, 2);
         y.place(1);
         due("17 just the state", y.decode(1), 1);
@@ -658,7 +652,7 @@ public final class PromiseTest {
     }
 
     private static void sizeAndByteAt() {
-        StateCoder x = withPoints(5, 31, 1);
+        Coder x = Coder.withPoints(5, 31, 1);
         x.describe();
         due("18 size", x.size(), 2);
         due("19 first", x.byteAt(0), 0b11100000);
@@ -671,141 +665,14 @@ public final class PromiseTest {
         due("19 not of the longer row", x.byteAt(1), -1);
     }
 
-    private static StateCoder onlySymbol(int symbol) {
-        StateCoder x = new StateCoder();
-        x.count(symbol, 32);
-        x.just(5);
-        return x;
-    }
-
-    /** An object whose IN has n times a symbol: a share of one symbol takes no bits for a row of any length. */
-    private static StateCoder fullOf(int symbol, int n) {
-        StateCoder x = onlySymbol(symbol);
-        x.write(32, 1);
-        due("a row of one symbol", x.decode(n), n);
-        x.turn();
-        return x;
-    }
-
-    private static StateCoder withPoints(int order, int... points) {
-        StateCoder x = new StateCoder();
-        for (int s = 0; s < points.length; s++) {
-            x.count(s, points[s] == -1 ? 65535 : points[s]);
-        }
-        due("just these points", x.just(order), true);
-        return x;
-    }
-
-    private static StateCoder withBits(String bits) {
-        StateCoder x = new StateCoder();
-        appendBits(x, bits);
-        return x;
-    }
-
-    private static void appendBits(StateCoder x, String bits) {
-        appendBytes(x, bits(bits));
-    }
-
-    private static void appendBytes(StateCoder x, int[] bytes) {
-        for (int b : bytes) {
-            x.write(b, 1);
-        }
-    }
-
-    private static int[] sharePoints(int order, int... counts) {
-        StateCoder x = new StateCoder();
-        for (int s = 0; s < counts.length; s++) {
-            x.count(s, counts[s]);
-        }
-        due("share by counts", x.share(order), true);
-        int[] points = new int[counts.length];
-        for (int s = 0; s < counts.length; s++) {
-            points[s] = x.points(s);
-        }
-        return points;
-    }
-
-    private static int[] described(int order, int... points) {
-        StateCoder x = withPoints(order, points);
-        due("describe's answer", x.describe(), x.size());
-        return outBytes(x);
-    }
-
-    private static int[] encoded(int[] points, int... row) {
-        StateCoder x = withPoints(5, points);
-        appendBytes(x, row);
-        due("encode's answer", x.encode(), x.size());
-        return outBytes(x);
-    }
-
     private static int[] decoded(int[] points, String bits, int n) {
-        StateCoder x = withPoints(5, points);
-        appendBits(x, bits);
+        Coder x = Coder.withPoints(5, points);
+        x.appendBits(bits);
         x.decode(n);
-        return outBytes(x);
-    }
-
-    private static int[] outBytes(StateCoder x) {
-        int[] bytes = new int[x.size()];
-        for (int k = 0; k < bytes.length; k++) {
-            bytes[k] = x.byteAt(k);
-        }
-        return bytes;
-    }
-
-    /** IN's bytes: with -1 points for all symbols, encode writes 255 less each symbol, the last one first, and a 1. */
-    private static int[] inBytes(StateCoder x) {
-        for (int s = 0; s < 256; s++) {
-            x.count(s, 65535);
-        }
-        due("all -1", x.just(8), true);
-        x.place(0);
-        int length = x.encode() - 1;
-        int[] bytes = new int[Math.max(length, 0)];
-        for (int k = 0; k < bytes.length; k++) {
-            bytes[k] = 255 - x.byteAt(length - 1 - k);
-        }
-        return bytes;
-    }
-
-    /** Bytes of bits, the first of which is the lowest one of the first byte. */
-    private static int[] bits(String bits) {
-        int[] bytes = new int[(bits.length() + 7) / 8];
-        for (int i = 0; i < bits.length(); i++) {
-            bytes[i / 8] |= (bits.charAt(i) - '0') << (i % 8);
-        }
-        return bytes;
-    }
-
-    /** A number's bits, the lowest one first. */
-    private static String lowestFirst(int number, int n) {
-        StringBuilder bits = new StringBuilder();
-        for (int i = 0; i < n; i++) {
-            bits.append((number >> i) & 1);
-        }
-        return bits.toString();
+        return x.outBytes();
     }
 
     private static int[] bytes(int... bytes) {
         return bytes;
-    }
-
-    private static void due(String what, boolean got, boolean want) {
-        tell(got == want, what, "" + got, "" + want);
-    }
-
-    private static void due(String what, int got, int want) {
-        tell(got == want, what, "" + got, "" + want);
-    }
-
-    private static void due(String what, int[] got, int[] want) {
-        tell(Arrays.equals(got, want), what, Arrays.toString(got), Arrays.toString(want));
-    }
-
-    private static void tell(boolean right, String what, String got, String want) {
-        if (!right) {
-            wrong++;
-            System.out.println(what + ": answered " + got + ", due is " + want);
-        }
     }
 }
