@@ -408,6 +408,9 @@ public final class PromiseBoundaryTest extends Checks {
         Coder x = Coder.onlySymbol(0);
         due("with one", x.describe(), 2);
         due("with one, OUT", x.outBytes(), new int[] {240, 3});
+        due("again", x.describe(), 2);
+        due("behind a longer OUT", x.write(32, 1) && x.decode(6000) == 6000 && x.describe() == 2, true);
+        due("behind a longer OUT, its bytes", x.outBytes(), new int[] {240, 3});
     }
 
     /** A share of another kind, and IN with a byte before PLACE and these bits behind it. */
@@ -562,6 +565,9 @@ public final class PromiseBoundaryTest extends Checks {
         // 16, 12 and 0 points take 15 bits, and 1 bit is left where 2 are due.
         notRead("1 of 2 bits", "0000" + "10001" + "1011" + "10" + "0", 5, 255, -3);
         isRead("2 of 2 bits", "0000" + "10001" + "1011" + "10" + "00" + "111", 5, 255, 16, 12, 0, 4);
+        // 20, 11 and 0 points take 15 bits, too, and 1 lacks: a bit would do for -1 points, but 2 are due.
+        notRead("1 of 2 bits, 1 lacks", "0000" + "10101" + "0111" + "10" + "0", 5, 255, -3);
+        isRead("2 of 2 bits, 1 lacks", "0000" + "10101" + "0111" + "10" + "00" + "0", 5, 255, 20, 11, 0, -1);
         // 12, 8 and 0 points take 16 bits.
         notRead("0 of 2 bits", "0000" + "10110" + "1001" + "100", 5, 255, -3);
         // 9 bits and two threes: 13 bits, then 3 bits, a three and half of one.
@@ -697,7 +703,10 @@ public final class PromiseBoundaryTest extends Checks {
 
     private static void encodeNoByte() {
         sentence("encode: -2, refused: no byte is there");
-        refused("IN empty", x -> x.setOnly(2, 5), Coder::encode, -2);
+        refused("IN empty", x -> {
+            x.setOnly(2, 5);
+            x.describe();
+        }, Coder::encode, -2);
         refused("PLACE at the length of IN", x -> {
             rich(x);
             x.place(8);
@@ -813,13 +822,19 @@ public final class PromiseBoundaryTest extends Checks {
                 y.write(32, 1);
                 y.decode(3);
             }, y -> y.decode(n), -1);
-            refused("no byte, n " + n, y -> y.setOnly(200, 5), y -> y.decode(n), -1);
+            refused("no byte, n " + n, y -> {
+                rich(y);
+                y.place(8);
+            }, y -> y.decode(n), -1);
         }
     }
 
     private static void decodeNoByte() {
         sentence("decode: -2, refused: no byte is there, or the last one is 0");
-        refused("IN empty", x -> x.setOnly(2, 5), x -> x.decode(1), -2);
+        refused("IN empty", x -> {
+            x.setOnly(2, 5);
+            x.describe();
+        }, x -> x.decode(1), -2);
         refused("PLACE at the length of IN", x -> {
             rich(x);
             x.place(8);
@@ -829,6 +844,7 @@ public final class PromiseBoundaryTest extends Checks {
             int length = row;
             refused("last byte 0 behind " + row, x -> {
                 x.setOnly(2, 5);
+                x.describe();
                 x.appendBytes(Arrays.copyOf(before, length));
                 x.write(0, 1);
             }, x -> x.decode(1), -2);

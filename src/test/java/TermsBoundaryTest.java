@@ -23,6 +23,7 @@ public final class TermsBoundaryTest extends Checks {
         withinOneCell();
         endOfRow();
         readFromItsEnd();
+        nothingBehindLast();
         orderWritten();
         asLongAsSomethingLacks();
         lowestAndHighestNumber();
@@ -457,6 +458,24 @@ public final class TermsBoundaryTest extends Checks {
         due("the state is next to the END", x.outBytes(), new int[] {0, 1});
     }
 
+    private static void nothingBehindLast() {
+        sentence("behind each but the last one the next state is the cell's BASE and its bits as a number");
+        // 1 has cell 31 alone, which takes 5 bits; 0 has all others: cell 0 takes 1 bit, the others none.
+        int[] points = {31, -1};
+        due("the last one's 5 bits are not there", decoded(points, 1, 63), 1);
+        due("the next one's are due", decoded(points, 2, 63), -3);
+        Coder x = Coder.withPoints(5, points);
+        x.appendBits("11111" + "11111" + "1");
+        due("5 bits behind the first", x.decode(2), 2);
+        due("5 bits behind the first, row", x.outBytes(), new int[] {1, 1});
+        due("5 bits lack behind the second", x.decode(3), -3);
+        // Cell 30 is of 0 and has the number 61: no bits, BASE 29.
+        Coder y = Coder.withPoints(5, points);
+        y.appendBits("01111" + "1");
+        due("no bits behind the first", y.decode(2), 2);
+        due("no bits behind the first, row", y.outBytes(), new int[] {0, 0});
+    }
+
     private static int decoded(int[] points, int n, int... bytes) {
         Coder x = Coder.withPoints(5, points);
         x.appendBytes(bytes);
@@ -521,7 +540,15 @@ public final class TermsBoundaryTest extends Checks {
         written("R 20, v 14", first + "01110" + "1111", 12, 13, 7);
         written("R 20, v 15", first + "11110" + "111", 12, 14, 6);
         written("R 20, v 16", first + "01011" + "111", 12, 15, 5);
+        written("R 20, v 17", first + "11011" + "111", 12, 16, 4);
         written("R 20, v 21", first + "11111", 12, 20);
+        // R 31 behind -1: t 32, m 31. R 30 behind two of -1: t 16, m 0.
+        written("R 31, v 30", "0000" + "00000" + "01111" + "11", -1, 29, 2);
+        written("R 31, v 31", "0000" + "00000" + "111110" + "11", -1, 30, 1);
+        written("R 31, v 32", "0000" + "00000" + "111111", -1, 31);
+        written("R 30, v 15", "0000" + "00000" + "00000" + "11110" + "11111", -1, -1, 14, 16);
+        written("R 30, v 16", "0000" + "00000" + "00000" + "00001" + "11111", -1, -1, 15, 15);
+        written("R 30, v 17", "0000" + "00000" + "00000" + "10001" + "1111", -1, -1, 16, 14);
     }
 
     /** Points are written as these bits, and are read from them. */
@@ -594,6 +621,11 @@ public final class TermsBoundaryTest extends Checks {
         due("0, 1 and 2", shared(5, 0, 1, 2, 0), new int[] {0, 11, 21, 0});
         due("0 beside the greatest", shared(12, 0, 65535), new int[] {0, 4096});
         due("1 beside the greatest", shared(12, 1, 65535), new int[] {-1, 4095});
+        // Of 0, much was cut off before it has no count: 1.9 of T 320; 10 and 2/3, 21 and 1/3 of T 3.
+        Coder x = new Coder();
+        due("1.9", x.count(0, 19) && x.count(1, 301) && x.share(5) && x.points(0) == 2, true);
+        due("0 then", x.count(0, 0) && x.count(1, 1) && x.count(2, 2) && x.share(5), true);
+        due("0, 1 and 2 then", x.firstPoints(3), new int[] {0, 11, 21});
     }
 
     private static void countBelowOnePoint() {

@@ -61,15 +61,17 @@ final class Later {
         }
     }
 
+    /** A share by the counts comes first, as one that is refused might itself spoil them. */
     static void counts(Coder x) {
-        for (int order = 5; order <= 12; order++) {
-            x.just(order);
-            x.about(0);
-            x.share(order);
-            x.about(0);
-        }
+        x.share(12);
         for (int s = 0; s < 256; s++) {
             x.points(s);
+        }
+        for (int order = 5; order <= 12; order++) {
+            x.share(order);
+            x.about(0);
+            x.just(order);
+            x.about(0);
         }
     }
 
