@@ -385,7 +385,7 @@ public final class StateCoder {
         }
 
         private int slotOf(int symbol, int number) {
-            return isSymbol(symbol) ? firstOfSymbol[symbol] + number - weightOf(symbol) : 0;
+            return isSymbol(symbol) ? firstOfSymbol[symbol] + number - weight(points[symbol]) : 0;
         }
 
         /** Gives the highest cells to the symbols with -1 points; the end of the cells below these. */
