@@ -546,14 +546,13 @@ public final class StateCoder {
             row.empty();
             row.putBits(share.order() - LOWEST_ORDER, ORDER_BITS);
             int lack = share.cells();
-            int symbol = 0;
-            while (lack > 0 && symbol < SYMBOLS) {
-                int points = share.pointsOf(symbol);
-                putNumber(points + 1, lack, row);
-                lack -= weight(points);
-                symbol++;
-                if (points == 0) {
-                    symbol = putZeros(share, symbol, row);
+            int next = 0;
+            for (int symbol = 0; symbol < SYMBOLS && lack > 0; symbol++) {
+                if (symbol == next) {
+                    int points = share.pointsOf(symbol);
+                    putNumber(points + 1, lack, row);
+                    lack -= weight(points);
+                    next = points == 0 ? putZeros(share, symbol + 1, row) : symbol + 1;
                 }
             }
             row.closeBits();
@@ -597,21 +596,23 @@ public final class StateCoder {
             }
             Arrays.fill(points, 0);
             int lack = 1 << order;
-            int symbol = 0;
-            while (symbol >= 0 && symbol <= last && symbol < points.length) {
-                int v = takeNumber(row, lack);
-                if (v < 0) {
-                    return -3;
+            int next = 0;
+            for (int symbol = 0; symbol <= last && symbol < points.length && next >= 0; symbol++) {
+                if (symbol == next) {
+                    int v = takeNumber(row, lack);
+                    if (v < 0) {
+                        return -3;
+                    }
+                    points[symbol] = v - 1;
+                    lack -= weight(v - 1);
+                    if (lack <= 0) {
+                        return order;
+                    }
+                    next = v == 1 ? behindZeros(row, symbol + 1, last) : symbol + 1;
                 }
-                points[symbol] = v - 1;
-                lack -= weight(v - 1);
-                if (lack <= 0) {
-                    return order;
-                }
-                symbol = v == 1 ? behindZeros(row, symbol + 1, last) : symbol + 1;
             }
             // Either the row ended in telling zeros, or last has its points and something lacks.
-            return symbol < 0 ? -3 : -2;
+            return next < 0 ? -3 : -2;
         }
 
         /** The number of a symbol, or -1 if the row ends before it does. */
